@@ -707,14 +707,16 @@ public final class RotationPress {
 
         private static void chooseTables(Block block) {
             for (int g = 0; g < block.groupCount; g++) {
-                int least = Integer.MAX_VALUE;
-                for (int t = 0; t < block.tableCount; t++) {
+                int best = 0;
+                int least = bitsOf(block, g, block.tables[0].lengths);
+                for (int t = 1; t < block.tableCount; t++) {
                     int bits = bitsOf(block, g, block.tables[t].lengths);
                     if (bits < least) {
                         least = bits;
-                        block.groupTables[g] = t;
+                        best = t;
                     }
                 }
+                block.groupTables[g] = best;
             }
         }
 

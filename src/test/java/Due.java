@@ -1,0 +1,111 @@
+import java.util.Arrays;
+import java.util.Random;
+
+/** What the tests share: counting wrong answers, and objects whose tape is filled. */
+final class Due {
+    private static int wrong = 0;
+    private static int asked = 0;
+
+    private Due() { }
+
+    static void same(String what, long got, long want) {
+        asked++;
+        if (got != want) {
+            tell(what + " answered " + got + ", due is " + want);
+        }
+    }
+
+    static void same(String what, int[] got, int[] want) {
+        asked++;
+        if (!Arrays.equals(got, want)) {
+            int at = Arrays.mismatch(got, want);
+            tell(what + ": " + got.length + " for " + want.length + ", other from " + at + " on");
+        }
+    }
+
+    static void fails(String what, Class<? extends RuntimeException> kind, Runnable call) {
+        asked++;
+        try {
+            call.run();
+            tell(what + " threw nothing, due is " + kind.getSimpleName());
+        } catch (RuntimeException e) {
+            if (e.getClass() != kind) {
+                tell(what + " threw " + e + ", due is " + kind.getSimpleName());
+            }
+        }
+    }
+
+    private static void tell(String text) {
+        wrong++;
+        if (wrong <= 40) {
+            System.out.println(text);
+        }
+    }
+
+    static void finish() {
+        System.out.println(asked + " asked, " + wrong + " wrong");
+        if (wrong != 0 || asked == 0) {
+            System.exit(1);
+        }
+    }
+
+    static RotationPress fed(int... bytes) {
+        RotationPress press = new RotationPress();
+        feed(press, bytes);
+        return press;
+    }
+
+    /** Puts the bytes behind the tape; what feed() brings too much is cut off. */
+    static void feed(RotationPress press, int... bytes) {
+        int before = press.length();
+        for (int at = 0; at < bytes.length; at += 20) {
+            int[] numbers = new int[5];
+            for (int n = 0; n < 20; n++) {
+                int b = at + n < bytes.length ? bytes[at + n] : 0;
+                numbers[n / 4] = numbers[n / 4] << 8 | b;
+            }
+            press.feed(numbers[0], numbers[1], numbers[2], numbers[3], numbers[4]);
+        }
+        press.end(before + bytes.length);
+    }
+
+    static int[] out(RotationPress press) {
+        int[] bytes = new int[press.size()];
+        for (int i = 0; i < bytes.length; i++) {
+            bytes[i] = press.out(i);
+        }
+        return bytes;
+    }
+
+    static int[] bytes(String text) {
+        return text.chars().toArray();
+    }
+
+    static int[] times(int b, int n) {
+        int[] bytes = new int[n];
+        Arrays.fill(bytes, b);
+        return bytes;
+    }
+
+    static int[] joined(int[]... rows) {
+        return Arrays.stream(rows).flatMapToInt(Arrays::stream).toArray();
+    }
+
+    static int[] random(Random random, int n, int kinds) {
+        return random.ints(n, 0, kinds).toArray();
+    }
+
+    /** Runs of all lengths, so that some are cut and many need a number. */
+    static int[] randomRuns(Random random, int n, int kinds, int longest) {
+        int[] bytes = new int[n];
+        int at = 0;
+        while (at < n) {
+            int b = random.nextInt(kinds);
+            int run = 1 + random.nextInt(longest);
+            for (int k = 0; k < run && at < n; k++) {
+                bytes[at++] = b;
+            }
+        }
+        return bytes;
+    }
+}
