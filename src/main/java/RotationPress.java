@@ -310,8 +310,8 @@ public final class RotationPress {
     }
 
     /**
-     * The order of a block's rotations, and the way back. The rotations are sorted by their first
-     * 1, 2, 4, 8 .. bytes, for a block that repeats itself would make comparing them whole slow.
+     * Sorts a block's rotations: by their first 1, 2, 4, 8 .. bytes, for comparing them whole would
+     * be slow where a block repeats itself.
      */
     private static final class Rotations {
         private int[] order;
@@ -833,8 +833,6 @@ public final class RotationPress {
 
         void begin(int level) {
             row.count = 0;
-            held = 0;
-            heldCount = 0;
             put(FIRST_BYTE, 8);
             put(SECOND_BYTE, 8);
             put(LEVEL_ZERO + level, 8);
@@ -1343,7 +1341,7 @@ public final class RotationPress {
                 if (number) {
                     equal = 0;
                 } else {
-                    equal = equal > 0 && b == before ? equal + 1 : 1;
+                    equal = b == before ? equal + 1 : 1;
                     before = b;
                 }
             }

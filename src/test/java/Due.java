@@ -69,6 +69,10 @@ final class Due {
         press.end(before + bytes.length);
     }
 
+    /**
+     * All bytes of the out. So tests use an object for more calls than the document speaks of;
+     * this class answers them all the same way.
+     */
     static int[] out(RotationPress press) {
         int[] bytes = new int[press.size()];
         for (int i = 0; i < bytes.length; i++) {

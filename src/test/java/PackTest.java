@@ -14,6 +14,7 @@ public final class PackTest {
         equalRotations();
         tableEdges();
         lastPackCounts();
+        packAfterPack();
         random();
         fullTapes();
         Due.finish();
@@ -200,6 +201,33 @@ public final class PackTest {
         Due.same("feed, alter and end leave the pieces", press.piece(0, 0) >= 0 ? 1 : 0, 1);
         press.copy();
         Due.same("copy too", press.piece(0, 0) >= 0 ? 1 : 0, 1);
+    }
+
+    /** Nothing of an earlier pack() or unpack() is left in a later one. */
+    private static void packAfterPack() {
+        Random random = new Random(6);
+        RotationPress used = new RotationPress();
+        for (int n : new int[] {2240, 3, 700, 1, 5, 1300, 0, 40, 270, 2}) {
+            int[] bytes = Due.random(random, n, 1 + random.nextInt(256));
+            int level = 1 + random.nextInt(3);
+            RotationPress fresh = Due.fed(bytes);
+            used.end(0);
+            Due.feed(used, bytes);
+            Due.same("pack after pack", used.pack(level), fresh.pack(level));
+            Due.same("out after pack", Due.out(used), Due.out(fresh));
+            for (int what = 0; what <= 7; what++) {
+                Due.same("about after pack " + what, used.about(what), fresh.about(what));
+            }
+            for (int which = 0; which <= 10; which++) {
+                for (int i = -1; i <= 2251; i++) {
+                    Due.same("piece after pack " + which + " " + i, used.piece(which, i), fresh.piece(which, i));
+                }
+            }
+            if (random.nextBoolean()) {
+                used.copy();
+                Due.same("unpack between", used.unpack(60000), n);
+            }
+        }
     }
 
     private static void random() {
