@@ -81,6 +81,30 @@ final class Due {
         return bytes;
     }
 
+    /** All bytes of the tape, each put back as it was. */
+    static int[] tape(RotationPress press) {
+        int[] bytes = new int[press.length()];
+        for (int i = 0; i < bytes.length; i++) {
+            bytes[i] = press.alter(i, 0);
+            press.alter(i, bytes[i]);
+        }
+        return bytes;
+    }
+
+    /** An object whose out has so many bytes b, 60000 at most, and whose tape has none. */
+    static RotationPress unpacked(int b, int n) {
+        RotationPress press = fed(Reference.pack(times(b, n), 9));
+        press.unpack(60000);
+        return press;
+    }
+
+    /** An object whose tape has so many bytes b, 10240 at most, made with few calls. */
+    static RotationPress filled(int b, int n) {
+        RotationPress press = unpacked(b, n);
+        press.copy();
+        return press;
+    }
+
     static int[] bytes(String text) {
         return text.chars().toArray();
     }
