@@ -1,7 +1,11 @@
 import java.lang.reflect.Constructor;
 import java.lang.reflect.Field;
 import java.lang.reflect.Method;
+import java.util.ArrayList;
 import java.util.Arrays;
+import java.util.Collections;
+import java.util.List;
+import java.util.Random;
 
 /**
  * Two edges of CODES that no call can reach: a length above 17 needs weights of 6765 together, and six
@@ -11,7 +15,7 @@ import java.util.Arrays;
 public final class InnerEdgesTest {
     /** Each is the sum of the two before, so each symbol is in one sum more than the next one. */
     private static final int[] SUMS = {
-        1, 1, 2, 3, 5, 8, 13, 21, 34, 55, 89, 144, 233, 377, 610, 987, 1597, 2584, 4181,
+        1, 1, 2, 3, 5, 8, 13, 21, 34, 55, 89, 144, 233, 377, 610, 987, 1597, 2584, 4181, 6765, 10946, 17711, 28657,
     };
 
     public static void main(String[] args) throws ReflectiveOperationException {
@@ -48,18 +52,36 @@ public final class InnerEdgesTest {
     /** "If one is above 17, all symbols' weights are halved, rounded down, and 1 more, and it begins again." */
     private static void lengthsAboveSeventeen(Class<?> coder) throws ReflectiveOperationException {
         int[] seventeen = Arrays.copyOf(SUMS, 18);
-        int[] eighteen = SUMS;
+        int[] eighteen = Arrays.copyOf(SUMS, 19);
         Due.same("17 is taken", greatest(lengths(coder, seventeen)), 17);
         Due.same("18 is not", greatest(lengths(coder, eighteen)) < 18 ? 1 : 0, 1);
         int[] halved = Arrays.stream(eighteen).map(weight -> weight / 2 + 1).toArray();
         Due.same("18 is made of halved weights", lengths(coder, eighteen), lengths(coder, halved));
-        int[] backwards = eighteen.clone();
-        for (int i = 0; i < backwards.length; i++) {
-            backwards[i] = eighteen[eighteen.length - 1 - i];
+        for (int n = 16; n <= SUMS.length; n++) {
+            compare(coder, Arrays.copyOf(SUMS, n));
         }
-        for (int[] weights : new int[][] {seventeen, eighteen, halved, backwards}) {
-            Due.same("lengths of " + Arrays.toString(weights), lengths(coder, weights), Reference.lengths(weights));
+        for (int seed = 0; seed < 300; seed++) {
+            compare(coder, farApart(new Random(seed)));
         }
+    }
+
+    private static void compare(Class<?> coder, int[] weights) throws ReflectiveOperationException {
+        Due.same("lengths of " + Arrays.toString(weights), lengths(coder, weights), Reference.lengths(weights));
+    }
+
+    /** Weights that grow nearly as the sums do, among small ones, in any order. */
+    private static int[] farApart(Random random) {
+        int n = 18 + random.nextInt(40);
+        double growth = 1.6 + random.nextDouble() / 2;
+        List<Integer> weights = new ArrayList<>();
+        double weight = 1;
+        for (int i = 0; i < n; i++) {
+            int noise = (int) (weight * (0.7 + 0.6 * random.nextDouble()));
+            weights.add(noise >= 1 && noise < 50000 ? noise : 1 + random.nextInt(9));
+            weight *= growth;
+        }
+        Collections.shuffle(weights, random);
+        return Reference.row(weights);
     }
 
     private static int greatest(int[] row) {
@@ -76,7 +98,7 @@ public final class InnerEdgesTest {
         // its own row is just long enough for the weights that a block can have
         Field slots = coder.getDeclaredField("slots");
         slots.setAccessible(true);
-        slots.set(made, new int[10000]);
+        slots.set(made, new int[60000]);
         Method makeLengths = coder.getDeclaredMethod("makeLengths", int[].class, int.class);
         makeLengths.setAccessible(true);
         int[] lengths = new int[weights.length];

@@ -28,6 +28,7 @@ public final class PackEdgesTest {
         tablesBySymbols();
         mostSymbols();
         oneSymbolMostOften();
+        fourTimes();
         tableWithoutGroups();
         fileOfNothing();
         fileOfOneByte();
@@ -379,6 +380,35 @@ public final class PackEdgesTest {
         Due.same("unpacked", Due.out(press), bytes);
     }
 
+    /** "four times then": on blocks whose tables are others when it is three or five times. */
+    private static void fourTimes() {
+        int met = 0;
+        for (int seed = 0; seed < 200 && met < 5; seed++) {
+            int[] bytes = Due.randomRuns(new Random(seed), 2000, 40, 3);
+            Reference.Block block = Reference.blocks(bytes, 9).get(0);
+            int[] tables = block.groupTables;
+            int[][] lengths = block.lengths;
+            if (Arrays.equals(tables, tablesAfter(block, 3)) || Arrays.equals(tables, tablesAfter(block, 5))) {
+                continue;
+            }
+            met++;
+            RotationPress press = packed(9, Arrays.copyOf(bytes, block.packed.size()));
+            Due.same("the tables of the fourth time", pieces(press, 4), tables);
+            for (int t = 0; t < lengths.length; t++) {
+                Due.same("the codes of the fourth time", pieces(press, 5 + t), lengths[t]);
+            }
+        }
+        Due.same("such blocks were met", met, 5);
+    }
+
+    private static int[] tablesAfter(Reference.Block block, int times) {
+        Reference.Block other = new Reference.Block();
+        other.symbols = block.symbols;
+        other.listed = block.listed;
+        Reference.code(other, times);
+        return other.groupTables;
+    }
+
     /** "each table's code is made of its groups": without one, all weights are 1; "(the first of several)". */
     private static void tableWithoutGroups() {
         RotationPress press = packed(1, 'a');
@@ -555,7 +585,7 @@ public final class PackEdgesTest {
         press.pack(1);
         noPieces("no block", press);
         Due.feed(press, 1, 2, 3);
-        noPieces("a full tape is no pack", press);
+        noPieces("feed is no pack", press);
         press.pack(1);
         Due.same("a block again", press.piece(0, 0), 1);
         press.copy();

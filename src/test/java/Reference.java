@@ -67,7 +67,7 @@ final class Reference {
             each.check = check(row(each.packed));
             rotate(each);
             list(each);
-            code(each);
+            code(each, 4);
         }
         return blocks;
     }
@@ -146,7 +146,7 @@ final class Reference {
         block.symbols = row(symbols);
     }
 
-    static void code(Block block) {
+    static void code(Block block, int times) {
         int n = block.symbols.length;
         int groups = (n + 49) / 50;
         int tables = n < 200 ? 2 : n < 600 ? 3 : n < 1200 ? 4 : n < 2400 ? 5 : 6;
@@ -155,7 +155,7 @@ final class Reference {
             block.groupTables[g] = g * tables / groups;
         }
         block.lengths = new int[tables][];
-        for (int time = 0; time < 4; time++) {
+        for (int time = 0; time < times; time++) {
             for (int t = 0; t < tables; t++) {
                 int[] weights = new int[block.listed + 2];
                 Arrays.fill(weights, 1);

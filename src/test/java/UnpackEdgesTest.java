@@ -31,6 +31,7 @@ public final class UnpackEdgesTest {
         noCodeIsSure();
         lastOfEachLevel();
         lastTooLongByAByte();
+        lastTooLongByASymbol();
         digitsTooMany();
         lastSymbolInTheLastGroup();
         lastSymbolInAnother();
@@ -261,7 +262,7 @@ public final class UnpackEdgesTest {
             FileMaker file = upToGroups(2, 1).put("0");
             int at = file.bits.length();
             boolean taken = length >= 1 && length <= 20;
-            // behind the first one come what makes the code right, and a second table like it
+            // the others are such that the code has room for the first one
             int[] lengths = {length, length == 1 ? 2 : length, 2};
             if (taken) {
                 right("first length " + length, oneByte(file.tables(2, lengths), lengths), 'a');
@@ -328,7 +329,7 @@ public final class UnpackEdgesTest {
             cut.bits.setLength(cut.bits.length() / 8 * 8 - (cut.bits.length() % 8 == 0 ? 8 : 0));
             fault("it ends before", cut, 2, cut.bits.length());
         }
-        // 258 symbols: one of 1, one of 2 and so on up to 11, and a rest of 2 to the power of -11
+        // 1, 2, 3 .. 11 and two of 12 come to 1 together, so 245 more are above it
         int[] full = Due.times(19, 258);
         for (int n = 0; n < 11; n++) {
             full[n] = n + 1;
@@ -458,6 +459,17 @@ public final class UnpackEdgesTest {
                 file.put("10").put("11").finish();
                 fault("a byte behind " + before, file, before < most ? 13 : 8, before < most ? 24 : at);
             }
+        }
+    }
+
+    /** The greatest block told by 2250 symbols: one more is too many, where its group is there. */
+    private static void lastTooLongByASymbol() {
+        int[] two = {2, 2, 2, 2};
+        for (int groups : new int[] {45, 46, 47, 32767}) {
+            FileMaker file = FileMaker.at(9).beginBlock(0, 0).used('a', 'b').counts(2, groups).put("0".repeat(groups));
+            file.tables(2, two).put("10".repeat(2251)).put("11").finish();
+            boolean there = groups > 45;
+            fault("2251 symbols in " + groups + " groups", file, there ? 8 : 10, there ? file.symbolsAt + 4500 : 24);
         }
     }
 
